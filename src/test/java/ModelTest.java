@@ -59,8 +59,8 @@ public final class ModelTest {
 
     private void step() {
         int kind = below(100);
-        if (kind < 6) {
-            write(lineText());
+        if (kind < (style == 3 ? 12 : 6)) {
+            write(style == 3 ? brokenLine() : lineText());
             due("line", x.line(), m.line());
         } else if (kind < 14) {
             write(words(1 + below(style == 1 ? 30 : 9)));
@@ -114,6 +114,12 @@ public final class ModelTest {
             text.setCharAt(below(text.length()), "0159/;h,ag".charAt(below(10)));
         }
         return text.toString();
+    }
+
+    /** A good LINE, on which for a while nothing comes through on a WAY, or on both. */
+    private String brokenLine() {
+        String[] ends = {"", "", "", "h1,0", "h0,1", "h1,1", "h1,1"};
+        return "cccc8888/88888888;" + (1 + below(below(4) == 0 ? 8 : 3)) + ends[below(ends.length)];
     }
 
     private int hurt() {

@@ -31,6 +31,9 @@ public final class PromisesTest {
         t.promise11RateNought();
         t.promise11Again();
         t.promise11AgainNotTooSoon();
+        t.promise11AgainHeardInAgree();
+        t.promise11AgainDownToOne();
+        t.promise11TheSecondTime();
         t.promise11RemainsLowersTheOffer();
         t.promise11QualitySteps();
         t.promise12Band();
@@ -630,6 +633,88 @@ public final class PromisesTest {
         c.due("TICK 72: both into DATA", x.go(1), 2);
         dueEnd("END 0 in DATA", x, 0, 0, 7, 14, 2, 15, 0, 5, 15);
         dueEnd("END 1 in DATA", x, 1, 0, 7, 14, 2, 15, 0, 5, 15);
+    }
+
+    /** END 1 is in AGREE since TICK 53 and hears nothing in TICKS 56 to 64: OFFER of g 2 is the first it hears. */
+    private void promise11AgainHeardInAgree() {
+        TwoModems x = new TwoModems();
+        x.call(0);
+        x.go(56);
+        Checks.read(x, PLAIN + "h1,1");
+        c.due("TICKS 56 to 64: AGAIN of END 0 in TICK 63", x.go(9), 1);
+        dueEnd("TICK 64", x, 0, 0, 5, 1, 2, 2, 2, 3, 15, 13, 1);
+        dueEnd("TICK 64", x, 1, 0, 6, 1, 12, 2, 1, 4, 16);
+        Checks.read(x, PLAIN);
+        c.due("TICK 65", x.go(1), 1);
+        dueHeard("TICK 65", x, 1, 5, 2, 15, 0, 0);
+        dueEnd("TICK 65", x, 1, 0, 5, 1, 1, 2, 2, 3, 16, 4, 16);
+        c.due("TICK 66", x.go(1), 1);
+        dueEnd("TICK 66", x, 1, 0, 6, 2, 2, 4, 15);
+        c.due("TICK 67", x.go(1), 1);
+        dueEnd("TICK 67", x, 0, 0, 6, 2, 2, 4, 15);
+        c.due("TICKS 68 and 69", x.go(2), 2);
+        dueEnd("TICK 69", x, 0, 0, 7, 14, 2);
+        dueEnd("TICK 69", x, 1, 0, 7, 14, 1);
+    }
+
+    /** OFFER 2 becomes 1 by AGAIN; then what is lost changes nothing. */
+    private void promise11AgainDownToOne() {
+        TwoModems x = new TwoModems();
+        Checks.read(x, "80000000/80000000;2");
+        x.call(0);
+        x.go(70);
+        dueEnd("in DATA", x, 0, 0, 7, 2, 1, 3, 2, 4, 2, 13, 0);
+        Checks.read(x, "80000000/80000000;2h0,1");
+        c.due("two are lost", x.go(2), 0);
+        c.due("three are lost", x.go(1), 1);
+        dueEnd("AGAIN", x, 0, 0, 5, 2, 2, 3, 1, 4, 2, 13, 1, 15, 7);
+        Checks.read(x, "80000000/80000000;2");
+        x.go(20);
+        dueEnd("in DATA", x, 0, 0, 7, 2, 2, 3, 1, 4, 1, 14, 2);
+        dueEnd("in DATA", x, 1, 0, 7, 2, 2, 3, 2, 4, 1, 14, 2);
+        Checks.read(x, "80000000/80000000;2h0,1");
+        c.due("three are lost", x.go(3), 0);
+        dueEnd("no AGAIN", x, 0, 0, 7, 2, 2, 3, 1, 13, 1, 15, 7);
+    }
+
+    /** Both hang ahead of TICK 57 and meet again 57 TICKS later than the first time. */
+    private void promise11TheSecondTime() {
+        TwoModems x = new TwoModems();
+        Checks.speak(x, 0, "ABCDEF");
+        Checks.speak(x, 1, "UVWXYZ");
+        x.echo(0, 2, 19);
+        x.call(0);
+        x.go(57);
+        dueEnd("TICK 56", x, 0, 0, 7, 5, 0, 7, 4, 8, 0, 9, 0, 10, 1, 14, 1);
+        dueEnd("TICK 56", x, 1, 0, 7, 7, 2, 8, 0, 9, 0, 14, 1);
+        int learnt = x.learnt(0, 2);
+        c.due("something is learnt", learnt > 200 ? 1 : 0, 1);
+        c.due("hang 0", x.hang(0), 7);
+        c.due("hang 1", x.hang(1), 7);
+        x.echo(0, 2, 0);
+        x.call(0);
+        x.go(1);
+        dueHeard("FRAMES are still on their way", x, 1, 7, 1, 0, 2, 0);
+        x.go(17);
+        c.due("LEARNT stays until TRAIN", x.learnt(0, 2), learnt);
+        x.go(1);
+        for (int tap = 0; tap < 4; tap++) {
+            c.due("LEARNT is 0 in TRAIN", x.learnt(0, tap), 0);
+        }
+        x.go(32);
+        dueEnd("in BARGAIN", x, 0, 0, 5, 2, 1, 3, 16, 11, 0, 7, 4, 10, 1);
+        x.go(5);
+        dueEnd("TICK 112: NEXT was TOLD", x, 0, 0, 7, 5, 0, 7, 2, 8, 0, 10, 0, 14, 2);
+        c.due("two of END 0 were sent twice", x.count(8), 2);
+        x.go(1);
+        c.due("four of END 0, two of END 1", x.count(8), 6);
+        x.go(30);
+        c.due("no more", x.count(8), 6);
+        dueText("GOT", Checks.gotText(x, 1), "ABCDEF");
+        dueText("GOT", Checks.gotText(x, 0), "UVWXYZ");
+        x.hang(0);
+        x.go(3);
+        dueHeard("REST sends SILENCE", x, 1, 0, 0, 0, 0, 0);
     }
 
     /** Nothing of an ECHO is known that comes behind TRAIN: 4 TAPS of 100 take 400 / 20 from each BAND. */
