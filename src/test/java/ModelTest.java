@@ -27,7 +27,7 @@ public final class ModelTest {
             m = new Model();
             calls = 0;
             style = below(4);
-            while (calls < CALLS - 90) {
+            while (calls < CALLS - 100) {
                 step();
             }
             agains += m.end(0, 13) + m.end(1, 13);

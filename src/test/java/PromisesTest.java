@@ -1,51 +1,16 @@
 /** Promises 1 to 18, each with answers reckoned by hand from the document. */
 public final class PromisesTest {
-    private static final int UNKNOWN = -1001, OUTSIDE = -1002, STATE = -1003, FULL = -1004;
-    private static final int[] WRONG_ENDS = {-1, 2, Integer.MIN_VALUE, Integer.MAX_VALUE};
-    private static final String PLAIN = "88888888/88888888;2";
+    private static final int UNKNOWN = Checks.UNKNOWN, OUTSIDE = Checks.OUTSIDE, STATE = Checks.STATE,
+        FULL = Checks.FULL;
+    private static final int[] WRONG_ENDS = Checks.WRONG_ENDS;
+    private static final String PLAIN = Checks.PLAIN;
 
     private final Checks c = new Checks();
 
-    public static void main(String[] args) {
+    public static void main(String[] args) throws ReflectiveOperationException {
         PromisesTest t = new PromisesTest();
         t.constants();
-        t.promise1NewObject();
-        t.promise2Letter();
-        t.promise3Blank();
-        t.promise4Fault();
-        t.promise5Line();
-        t.promise5SignalsOnTheirWayStay();
-        t.promise6Say();
-        t.promise7Echo();
-        t.promise8Call();
-        t.promise9Hang();
-        t.promise10Go();
-        t.promise10HandshakeTickByTick();
-        t.promise10HandshakeOverTheLongestDelay();
-        t.promise11EndInTheHandshake();
-        t.promise11EndInData();
-        t.promise11LettersPassTwiceWhereLost();
-        t.promise11Window();
-        t.promise11GivingUpAlone();
-        t.promise11GivingUpInData();
-        t.promise11RateNought();
-        t.promise11Again();
-        t.promise11AgainNotTooSoon();
-        t.promise11AgainHeardInAgree();
-        t.promise11AgainDownToOne();
-        t.promise11TheSecondTime();
-        t.promise11RemainsLowersTheOffer();
-        t.promise11QualitySteps();
-        t.promise12Band();
-        t.promise12BandAsItIsWhenHeard();
-        t.promise13Learnt();
-        t.promise14Got();
-        t.promise15Heard();
-        t.promise16About();
-        t.promise16OneOfTwoInOneTick();
-        t.promise17Count();
-        t.promise17HurtSilence();
-        t.promise18Digest();
+        t.c.runAll(t);
         t.c.finish();
     }
 
@@ -55,16 +20,6 @@ public final class PromisesTest {
         c.due("OUTSIDE", TwoModems.OUTSIDE, OUTSIDE);
         c.due("STATE", TwoModems.STATE, STATE);
         c.due("FULL", TwoModems.FULL, FULL);
-    }
-
-    private void dueEnd(String when, TwoModems x, int end, int... whats) {
-        for (int k = 0; k < whats.length; k += 2) {
-            c.due(when + ": end(" + end + ", " + whats[k] + ")", x.end(end, whats[k]), whats[k + 1]);
-        }
-    }
-
-    private void dueText(String told, String got, String want) {
-        c.due(told + " \"" + got + "\" for \"" + want + "\"", got.equals(want) ? 1 : 0, 1);
     }
 
     private void promise1NewObject() {
@@ -257,8 +212,8 @@ public final class PromisesTest {
         c.due("THE PAGE stays", x.count(0), 7);
         c.due("say", x.say(1), 7);
         c.due("THE PAGE is empty", x.count(0), 0);
-        dueEnd("said", x, 1, 6, 7);
-        dueEnd("said", x, 0, 6, 0);
+        c.dueEnd("said", x, 1, 6, 7);
+        c.dueEnd("said", x, 0, 6, 0);
         c.due("say nothing more", x.say(1), 7);
         String thirty = "abcdefghijklmnopqrstuvwxyz0123";
         for (int k = 1; k <= 6; k++) {
@@ -267,7 +222,7 @@ public final class PromisesTest {
         c.due("21 more are too many", Checks.speak(x, 0, "abcdefghijklmnopqrstu"), FULL);
         c.due("THE PAGE stays", x.count(0), 21);
         c.due("say of a wrong END is UNKNOWN first", x.say(-1), UNKNOWN);
-        dueEnd("180", x, 0, 6, 180);
+        c.dueEnd("180", x, 0, 6, 180);
         c.due("20 more are 200", Checks.speak(x, 0, "abcdefghijklmnopqrst"), 200);
         c.due("one more is too many", Checks.speak(x, 0, "a"), FULL);
         x.blank();
@@ -307,10 +262,10 @@ public final class PromisesTest {
             c.due("call " + end, x.call(end), UNKNOWN);
         }
         x.go(3);
-        dueEnd("in REST", x, 0, 1, 3);
+        c.dueEnd("in REST", x, 0, 1, 3);
         c.due("call 0", x.call(0), 1);
-        dueEnd("called", x, 0, 0, 1, 1, 0);
-        dueEnd("called", x, 1, 0, 0, 1, 3);
+        c.dueEnd("called", x, 0, 0, 1, 1, 0);
+        c.dueEnd("called", x, 1, 0, 0, 1, 3);
         c.due("call 0 again", x.call(0), STATE);
         c.due("call is no change of go()", x.count(6), 0);
         c.due("call 1", x.call(1), 1);
@@ -334,7 +289,7 @@ public final class PromisesTest {
             x.go(ticks[k]);
             int changes = x.count(6);
             c.due("hang in PHASE", x.hang(0), phases[k]);
-            dueEnd("hung", x, 0, 0, 0, 1, 0, 12, 0);
+            c.dueEnd("hung", x, 0, 0, 0, 1, 0, 12, 0);
             c.due("hang is no change of go()", x.count(6), changes);
             c.due("hang again", x.hang(0), STATE);
         }
@@ -359,50 +314,49 @@ public final class PromisesTest {
         x.call(0);
         c.due("go over the whole handshake", x.go(57), 11);
         c.due("go in DATA", x.go(100), 0);
-        dueEnd("in DATA", x, 0, 0, 7, 1, 102);
-        dueEnd("in DATA", x, 1, 0, 7, 1, 101);
+        c.dueEnd("in DATA", x, 0, 0, 7, 1, 102);
+        c.dueEnd("in DATA", x, 1, 0, 7, 1, 101);
     }
 
-    /** Of an END: at[p] is the TICK in which it comes into PHASE p. */
-    private void dueHandshake(TwoModems x, int caller, int[][] at, int ticks) {
-        x.call(caller);
-        int[] phase = new int[2];
-        int[] since = new int[2];
-        phase[caller] = 1;
-        for (int tick = 0; tick < ticks; tick++) {
-            int changes = 0;
-            for (int role = 0; role < 2; role++) {
-                int end = role == 0 ? caller : 1 - caller;
-                for (int p = 2; p < 8; p++) {
-                    if (at[role][p] == tick) {
-                        phase[end] = p;
-                        since[end] = tick;
-                        changes++;
+    /** Of an END: at[p] is the TICK in which it comes into PHASE p. PHASE and LASTED are each looked at in a run. */
+    private void dueHandshake(String line, int caller, int[][] at, int ticks) {
+        for (int what = 0; what < 2; what++) {
+            TwoModems x = Checks.on(line);
+            x.call(caller);
+            int[] phase = new int[2];
+            int[] since = new int[2];
+            phase[caller] = 1;
+            for (int tick = 0; tick < ticks; tick++) {
+                int changes = 0;
+                for (int role = 0; role < 2; role++) {
+                    int end = role == 0 ? caller : 1 - caller;
+                    for (int p = 2; p < 8; p++) {
+                        if (at[role][p] == tick) {
+                            phase[end] = p;
+                            since[end] = tick;
+                            changes++;
+                        }
                     }
                 }
-            }
-            c.due("go in TICK " + tick, x.go(1), changes);
-            for (int end = 0; end < 2; end++) {
-                dueEnd("TICK " + tick, x, end, 0, phase[end], 1, tick + 1 - since[end]);
+                c.due("go in TICK " + tick, x.go(1), changes);
+                for (int end = 0; end < 2; end++) {
+                    c.dueEnd("TICK " + tick, x, end, what, what == 0 ? phase[end] : tick + 1 - since[end]);
+                }
             }
         }
     }
 
     private void promise10HandshakeTickByTick() {
         int[][] at = {{-1, 0, -1, 4, 18, 50, 54, 55}, {-1, -1, 2, 6, 20, 52, 53, 56}};
-        dueHandshake(new TwoModems(), 0, at, 80);
-        dueHandshake(new TwoModems(), 1, at, 80);
+        dueHandshake(PLAIN, 0, at, 80);
+        dueHandshake(PLAIN, 1, at, 80);
     }
 
     private void promise10HandshakeOverTheLongestDelay() {
-        TwoModems x = new TwoModems();
-        Checks.read(x, "88888888/88888888;8");
         int[][] at = {{-1, 0, -1, 16, 42, 74, 90, 91}, {-1, -1, 8, 24, 50, 82, 83, 98}};
-        dueHandshake(x, 0, at, 130);
-        x = new TwoModems();
-        Checks.read(x, "88888888/88888888;1");
+        dueHandshake("88888888/88888888;8", 0, at, 130);
         at = new int[][] {{-1, 0, -1, 2, 14, 46, 48, 49}, {-1, -1, 1, 3, 15, 47, 48, 49}};
-        dueHandshake(x, 0, at, 70);
+        dueHandshake("88888888/88888888;1", 0, at, 70);
     }
 
     private void promise11EndInTheHandshake() {
@@ -416,17 +370,17 @@ public final class PromisesTest {
         c.due("end what most", x.end(1, Integer.MAX_VALUE), OUTSIDE);
         x.call(0);
         x.go(50);
-        dueEnd("ahead of BARGAIN", x, 0, 0, 4, 2, 0, 3, 0, 4, 0);
+        c.dueEnd("ahead of BARGAIN", x, 0, 0, 4, 2, 0, 3, 0, 4, 0);
         x.go(1);
-        dueEnd("in BARGAIN", x, 0, 0, 5, 2, 1, 3, 16, 4, 0, 11, 0);
+        c.dueEnd("in BARGAIN", x, 0, 0, 5, 2, 1, 3, 16, 4, 0, 11, 0);
         x.go(3);
-        dueEnd("END 1 in AGREE", x, 1, 0, 6, 2, 1, 3, 16, 4, 16, 14, 0);
+        c.dueEnd("END 1 in AGREE", x, 1, 0, 6, 2, 1, 3, 16, 4, 16, 14, 0);
         x.go(2);
-        dueEnd("in DATA", x, 0, 0, 7, 14, 1, 5, 16);
-        dueEnd("not yet in DATA", x, 1, 0, 6, 14, 0, 5, 0);
+        c.dueEnd("in DATA", x, 0, 0, 7, 14, 1, 5, 16);
+        c.dueEnd("not yet in DATA", x, 1, 0, 6, 14, 0, 5, 0);
         x.go(1);
-        dueEnd("in DATA", x, 0, 5, 24);
-        dueEnd("in DATA", x, 1, 0, 7, 14, 1, 5, 16);
+        c.dueEnd("in DATA", x, 0, 5, 24);
+        c.dueEnd("in DATA", x, 1, 0, 7, 14, 1, 5, 16);
     }
 
     private void promise11EndInData() {
@@ -434,29 +388,29 @@ public final class PromisesTest {
         Checks.speak(x, 0, "ABCDEFG");
         x.call(0);
         x.go(56);
-        dueEnd("TICK 55", x, 0, 5, 0, 6, 7, 7, 2, 8, 0, 10, 0);
+        c.dueEnd("TICK 55", x, 0, 5, 0, 6, 7, 7, 2, 8, 0, 10, 0);
         x.go(1);
-        dueEnd("TICK 56", x, 0, 5, 0, 7, 4, 8, 0, 10, 1);
-        dueEnd("TICK 56", x, 1, 9, 0);
+        c.dueEnd("TICK 56", x, 0, 5, 0, 7, 4, 8, 0, 10, 1);
+        c.dueEnd("TICK 56", x, 1, 9, 0);
         x.go(1);
-        dueEnd("TICK 57", x, 0, 5, 0, 7, 6, 8, 0, 10, 2);
-        dueEnd("TICK 57", x, 1, 9, 2);
+        c.dueEnd("TICK 57", x, 0, 5, 0, 7, 6, 8, 0, 10, 2);
+        c.dueEnd("TICK 57", x, 1, 9, 2);
         x.go(1);
-        dueEnd("TICK 58", x, 0, 5, 8, 7, 7, 8, 0, 10, 3);
-        dueEnd("TICK 58", x, 1, 9, 4);
+        c.dueEnd("TICK 58", x, 0, 5, 8, 7, 7, 8, 0, 10, 3);
+        c.dueEnd("TICK 58", x, 1, 9, 4);
         x.go(1);
-        dueEnd("TICK 59", x, 0, 5, 24, 7, 7, 8, 2, 10, 0);
-        dueEnd("TICK 59", x, 1, 9, 6);
+        c.dueEnd("TICK 59", x, 0, 5, 24, 7, 7, 8, 2, 10, 0);
+        c.dueEnd("TICK 59", x, 1, 9, 6);
         x.go(1);
-        dueEnd("TICK 60", x, 0, 8, 4, 10, 0);
-        dueEnd("TICK 60", x, 1, 9, 7);
+        c.dueEnd("TICK 60", x, 0, 8, 4, 10, 0);
+        c.dueEnd("TICK 60", x, 1, 9, 7);
         x.go(2);
-        dueEnd("TICK 62", x, 0, 7, 7, 8, 7, 9, 0, 10, 0);
+        c.dueEnd("TICK 62", x, 0, 7, 7, 8, 7, 9, 0, 10, 0);
         x.go(100);
-        dueEnd("long behind", x, 0, 0, 7, 7, 7, 8, 7, 10, 0, 15, 0);
-        dueText("GOT", Checks.gotText(x, 1), "ABCDEFG");
+        c.dueEnd("long behind", x, 0, 0, 7, 7, 7, 8, 7, 10, 0, 15, 0);
+        c.dueText("GOT", Checks.gotText(x, 1), "ABCDEFG");
         x.hang(0);
-        dueEnd("hung: what it has stays", x, 0, 2, 1, 3, 16, 4, 16, 5, 24, 6, 7, 7, 7, 8, 7, 14, 1);
+        c.dueEnd("hung: what it has stays", x, 0, 2, 1, 3, 16, 4, 16, 5, 24, 6, 7, 7, 7, 8, 7, 14, 1);
     }
 
     /** FRAMES of letters 0 to 5 are sent in TICKS 55 to 57; that of TICK 56 is the 57th that comes on WAY 0. */
@@ -469,28 +423,28 @@ public final class PromisesTest {
         x.go(1);
         c.due("SIGNALS that came on WAY 0", x.count(2), 57);
         c.due("the 57th is HURT", x.count(4), 1);
-        dueEnd("TICK 58", x, 1, 9, 2, 15, 1);
-        dueEnd("TICK 58", x, 0, 7, 6, 8, 0, 10, 3);
+        c.dueEnd("TICK 58", x, 1, 9, 2, 15, 1);
+        c.dueEnd("TICK 58", x, 0, 7, 6, 8, 0, 10, 3);
         Checks.read(x, PLAIN);
         x.go(1);
-        dueEnd("TICK 59: p 4 is not GOT", x, 1, 9, 2, 15, 2);
-        dueEnd("TICK 59", x, 0, 7, 6, 8, 2, 10, 0);
+        c.dueEnd("TICK 59: p 4 is not GOT", x, 1, 9, 2, 15, 2);
+        c.dueEnd("TICK 59", x, 0, 7, 6, 8, 2, 10, 0);
         x.go(7);
-        dueEnd("TICK 66", x, 0, 7, 6, 8, 2, 10, 7);
+        c.dueEnd("TICK 66", x, 0, 7, 6, 8, 2, 10, 7);
         c.due("nothing was sent twice", x.count(8), 0);
         x.go(1);
-        dueEnd("TICK 67: sent again from TOLD on", x, 0, 7, 5, 8, 2, 10, 0, 5, 0);
+        c.dueEnd("TICK 67: sent again from TOLD on", x, 0, 7, 5, 8, 2, 10, 0, 5, 0);
         c.due("three were sent twice", x.count(8), 3);
         x.go(1);
         c.due("all four", x.count(8), 4);
         x.go(1);
-        dueEnd("TICK 69", x, 1, 9, 5);
+        c.dueEnd("TICK 69", x, 1, 9, 5);
         x.go(1);
-        dueEnd("TICK 70", x, 1, 9, 6);
+        c.dueEnd("TICK 70", x, 1, 9, 6);
         x.go(2);
-        dueEnd("TICK 72", x, 0, 7, 6, 8, 6, 10, 0);
+        c.dueEnd("TICK 72", x, 0, 7, 6, 8, 6, 10, 0);
         c.due("no more was sent twice", x.count(8), 4);
-        dueText("GOT", Checks.gotText(x, 1), "ABCDEF");
+        c.dueText("GOT", Checks.gotText(x, 1), "ABCDEF");
     }
 
     /** RATE 24, DELAY 8: END 0 is in DATA from TICK 91 on, and what it sent then is TOLD in TICK 107. */
@@ -502,26 +456,26 @@ public final class PromisesTest {
         }
         x.call(0);
         Checks.pass(x, 111);
-        dueEnd("TICK 110", x, 0, 3, 24, 4, 24, 5, 0, 7, 60, 8, 12);
-        dueEnd("TICK 110", x, 1, 9, 36);
+        c.dueEnd("TICK 110", x, 0, 3, 24, 4, 24, 5, 0, 7, 60, 8, 12);
+        c.dueEnd("TICK 110", x, 1, 9, 36);
         Checks.read(x, "ffffffff/ffffffff;8h26,0");
         x.go(1);
         c.due("the 104th, letters 36 to 38, is HURT", x.count(4), 1);
         Checks.read(x, "ffffffff/ffffffff;8");
         x.go(12);
-        dueEnd("TICK 123", x, 0, 5, 0, 7, 99, 8, 36, 10, 5);
+        c.dueEnd("TICK 123", x, 0, 5, 0, 7, 99, 8, 36, 10, 5);
         x.go(1);
-        dueEnd("TICK 124: not above TOLD + 64", x, 0, 5, 16, 7, 100, 8, 36, 10, 6);
+        c.dueEnd("TICK 124: not above TOLD + 64", x, 0, 5, 16, 7, 100, 8, 36, 10, 6);
         x.go(1);
-        dueEnd("TICK 125", x, 0, 5, 24, 7, 100, 8, 36, 10, 7);
+        c.dueEnd("TICK 125", x, 0, 5, 24, 7, 100, 8, 36, 10, 7);
         x.go(12);
-        dueEnd("TICK 137", x, 0, 5, 24, 7, 100, 8, 36, 10, 19);
+        c.dueEnd("TICK 137", x, 0, 5, 24, 7, 100, 8, 36, 10, 19);
         c.due("nothing was sent twice", x.count(8), 0);
         x.go(1);
-        dueEnd("TICK 138", x, 0, 5, 0, 7, 39, 8, 36, 10, 0);
+        c.dueEnd("TICK 138", x, 0, 5, 0, 7, 39, 8, 36, 10, 0);
         c.due("three were sent twice", x.count(8), 3);
         Checks.pass(x, 200);
-        dueEnd("all are TOLD", x, 0, 0, 7, 7, 200, 8, 200, 13, 0);
+        c.dueEnd("all are TOLD", x, 0, 0, 7, 7, 200, 8, 200, 13, 0);
     }
 
     /** AGAIN waits until LASTED is 8, however much is lost. */
@@ -531,9 +485,9 @@ public final class PromisesTest {
         x.go(56);
         Checks.read(x, PLAIN + "h0,1");
         c.due("LASTED is 1 to 7", x.go(7), 1);
-        dueEnd("TICK 62", x, 0, 0, 7, 1, 8, 13, 0, 15, 127);
+        c.dueEnd("TICK 62", x, 0, 0, 7, 1, 8, 13, 0, 15, 127);
         c.due("LASTED is 8", x.go(1), 1);
-        dueEnd("TICK 63", x, 0, 0, 5, 1, 1, 2, 2, 3, 15, 4, 16, 13, 1, 15, 255);
+        c.dueEnd("TICK 63", x, 0, 0, 5, 1, 1, 2, 2, 3, 15, 4, 16, 13, 1, 15, 255);
     }
 
     private void promise11GivingUpAlone() {
@@ -541,20 +495,20 @@ public final class PromisesTest {
         Checks.read(x, PLAIN + "h1,1");
         x.call(0);
         c.due("60 TICKS in CALL", x.go(60), 0);
-        dueEnd("60 TICKS in CALL", x, 0, 0, 1, 1, 60, 12, 0);
+        c.dueEnd("60 TICKS in CALL", x, 0, 0, 1, 1, 60, 12, 0);
         c.due("the 61st", x.go(1), 1);
-        dueEnd("given up", x, 0, 0, 0, 1, 1, 12, 1);
-        dueEnd("the other did not", x, 1, 0, 0, 1, 61, 12, 0);
+        c.dueEnd("given up", x, 0, 0, 0, 1, 1, 12, 1);
+        c.dueEnd("the other did not", x, 1, 0, 0, 1, 61, 12, 0);
         c.due("REST goes on", x.go(100), 0);
         x = new TwoModems();
         x.call(0);
         x.go(1);
         x.hang(0);
         c.due("CALL comes, ANSWER waits", x.go(61), 1);
-        dueEnd("60 TICKS in ANSWER", x, 1, 0, 2, 1, 60);
+        c.dueEnd("60 TICKS in ANSWER", x, 1, 0, 2, 1, 60);
         c.due("the 61st", x.go(1), 1);
-        dueEnd("given up", x, 1, 0, 0, 12, 1);
-        dueEnd("what was hung gives nothing up", x, 0, 12, 0);
+        c.dueEnd("given up", x, 1, 0, 0, 12, 1);
+        c.dueEnd("what was hung gives nothing up", x, 0, 12, 0);
     }
 
     /** OFFER 1 on both sides, so nothing is bargained anew. END 1 hangs ahead of TICK 80. */
@@ -563,23 +517,23 @@ public final class PromisesTest {
         Checks.read(x, "40000000/04000000;2");
         x.call(0);
         x.go(80);
-        dueEnd("in DATA", x, 0, 0, 7, 3, 1, 4, 1);
+        c.dueEnd("in DATA", x, 0, 0, 7, 3, 1, 4, 1);
         x.hang(1);
         c.due("SILENCE comes in TICKS 82 to 97", x.go(18), 0);
-        dueEnd("TICK 97", x, 0, 0, 7, 15, 255, 12, 0, 13, 0);
+        c.dueEnd("TICK 97", x, 0, 0, 7, 15, 255, 12, 0, 13, 0);
         c.due("it gives up in TICK 98", x.go(1), 1);
-        dueEnd("TICK 98", x, 0, 0, 0, 1, 1, 12, 1, 13, 0);
+        c.dueEnd("TICK 98", x, 0, 0, 0, 1, 1, 12, 1, 13, 0);
         x = new TwoModems();
         Checks.read(x, "40000000/04000000;2");
         x.call(0);
         x.go(56);
-        dueEnd("in DATA since TICK 55", x, 0, 0, 7, 1, 1);
+        c.dueEnd("in DATA since TICK 55", x, 0, 0, 7, 1, 1);
         Checks.read(x, "40000000/04000000;2h1,1");
         c.due("SILENCE in TICKS 56 to 71, END 1 is in AGREE", x.go(16), 0);
-        dueEnd("TICK 71", x, 0, 0, 7, 15, 255);
+        c.dueEnd("TICK 71", x, 0, 0, 7, 15, 255);
         c.due("it gives up in TICK 72", x.go(1), 1);
-        dueEnd("TICK 72", x, 0, 0, 0, 12, 1);
-        dueEnd("TICK 72", x, 1, 0, 6, 12, 0);
+        c.dueEnd("TICK 72", x, 0, 0, 0, 12, 1);
+        c.dueEnd("TICK 72", x, 1, 0, 6, 12, 0);
         x = new TwoModems();
         Checks.read(x, "40000000/04000000;2");
         x.call(0);
@@ -596,12 +550,12 @@ public final class PromisesTest {
         Checks.read(x, "33333333/88888888;2");
         x.call(0);
         x.go(53);
-        dueEnd("OFFER of WAY 1 is good", x, 0, 0, 5, 3, 16, 2, 1);
-        dueEnd("OFFER of WAY 0 is 0", x, 1, 0, 5, 3, 0, 2, 1);
+        c.dueEnd("OFFER of WAY 1 is good", x, 0, 0, 5, 3, 16, 2, 1);
+        c.dueEnd("OFFER of WAY 0 is 0", x, 1, 0, 5, 3, 0, 2, 1);
         c.due("END 1 hears OFFER", x.go(1), 1);
-        dueEnd("REST, as RATE is 0", x, 1, 0, 0, 4, 0, 12, 0, 14, 0);
+        c.dueEnd("REST, as RATE is 0", x, 1, 0, 0, 4, 0, 12, 0, 14, 0);
         c.due("END 0 hears OFFER", x.go(1), 1);
-        dueEnd("REST, as RATE is 0", x, 0, 0, 0, 4, 0, 12, 0, 14, 0);
+        c.dueEnd("REST, as RATE is 0", x, 0, 0, 0, 4, 0, 12, 0, 14, 0);
     }
 
     /** Each second SIGNAL on WAY 1 is HURT from TICK 60 on (the 58th is the first of these). */
@@ -612,27 +566,27 @@ public final class PromisesTest {
         Checks.read(x, PLAIN + "h0,2");
         x.go(1);
         c.due("came on WAY 1", x.count(3), 59);
-        dueEnd("TICK 60", x, 0, 15, 0);
+        c.dueEnd("TICK 60", x, 0, 15, 0);
         x.go(1);
-        dueEnd("TICK 61", x, 0, 15, 1);
+        c.dueEnd("TICK 61", x, 0, 15, 1);
         x.go(2);
-        dueEnd("TICK 63", x, 0, 15, 5, 13, 0);
+        c.dueEnd("TICK 63", x, 0, 15, 5, 13, 0);
         c.due("TICK 64", x.go(1), 0);
         c.due("TICK 65: three are lost, LASTED is 10", x.go(1), 1);
-        dueEnd("TICK 65", x, 0, 0, 5, 1, 1, 2, 2, 3, 15, 4, 16, 13, 1, 15, 21);
+        c.dueEnd("TICK 65", x, 0, 0, 5, 1, 1, 2, 2, 3, 15, 4, 16, 13, 1, 15, 21);
         c.due("TICK 66", x.go(1), 0);
-        dueEnd("END 1 does not know yet", x, 1, 0, 7, 2, 1);
+        c.dueEnd("END 1 does not know yet", x, 1, 0, 7, 2, 1);
         c.due("TICK 67: OFFER of g 2 comes", x.go(1), 1);
-        dueEnd("END 1 in BARGAIN", x, 1, 0, 5, 1, 1, 2, 2, 3, 16, 4, 16, 13, 0);
+        c.dueEnd("END 1 in BARGAIN", x, 1, 0, 5, 1, 1, 2, 2, 3, 16, 4, 16, 13, 0);
         c.due("TICK 68: END 1 hears it again", x.go(1), 1);
-        dueEnd("END 1 in AGREE", x, 1, 0, 6, 2, 2, 4, 15);
+        c.dueEnd("END 1 in AGREE", x, 1, 0, 6, 2, 2, 4, 15);
         c.due("TICK 69: END 1's OFFER is HURT", x.go(1), 0);
         c.due("TICK 70: AGREE comes", x.go(1), 1);
-        dueEnd("END 0 in AGREE", x, 0, 0, 6, 2, 2, 4, 15);
+        c.dueEnd("END 0 in AGREE", x, 0, 0, 6, 2, 2, 4, 15);
         c.due("TICK 71: HURT once more", x.go(1), 0);
         c.due("TICK 72: both into DATA", x.go(1), 2);
-        dueEnd("END 0 in DATA", x, 0, 0, 7, 14, 2, 15, 0, 5, 15);
-        dueEnd("END 1 in DATA", x, 1, 0, 7, 14, 2, 15, 0, 5, 15);
+        c.dueEnd("END 0 in DATA", x, 0, 0, 7, 14, 2, 15, 0, 5, 15);
+        c.dueEnd("END 1 in DATA", x, 1, 0, 7, 14, 2, 15, 0, 5, 15);
     }
 
     /** END 1 is in AGREE since TICK 53 and hears nothing in TICKS 56 to 64: OFFER of g 2 is the first it hears. */
@@ -642,19 +596,19 @@ public final class PromisesTest {
         x.go(56);
         Checks.read(x, PLAIN + "h1,1");
         c.due("TICKS 56 to 64: AGAIN of END 0 in TICK 63", x.go(9), 1);
-        dueEnd("TICK 64", x, 0, 0, 5, 1, 2, 2, 2, 3, 15, 13, 1);
-        dueEnd("TICK 64", x, 1, 0, 6, 1, 12, 2, 1, 4, 16);
+        c.dueEnd("TICK 64", x, 0, 0, 5, 1, 2, 2, 2, 3, 15, 13, 1);
+        c.dueEnd("TICK 64", x, 1, 0, 6, 1, 12, 2, 1, 4, 16);
         Checks.read(x, PLAIN);
         c.due("TICK 65", x.go(1), 1);
-        dueHeard("TICK 65", x, 1, 5, 2, 15, 0, 0);
-        dueEnd("TICK 65", x, 1, 0, 5, 1, 1, 2, 2, 3, 16, 4, 16);
+        c.dueHeard("TICK 65", x, 1, 5, 2, 15, 0, 0);
+        c.dueEnd("TICK 65", x, 1, 0, 5, 1, 1, 2, 2, 3, 16, 4, 16);
         c.due("TICK 66", x.go(1), 1);
-        dueEnd("TICK 66", x, 1, 0, 6, 2, 2, 4, 15);
+        c.dueEnd("TICK 66", x, 1, 0, 6, 2, 2, 4, 15);
         c.due("TICK 67", x.go(1), 1);
-        dueEnd("TICK 67", x, 0, 0, 6, 2, 2, 4, 15);
+        c.dueEnd("TICK 67", x, 0, 0, 6, 2, 2, 4, 15);
         c.due("TICKS 68 and 69", x.go(2), 2);
-        dueEnd("TICK 69", x, 0, 0, 7, 14, 2);
-        dueEnd("TICK 69", x, 1, 0, 7, 14, 1);
+        c.dueEnd("TICK 69", x, 0, 0, 7, 14, 2);
+        c.dueEnd("TICK 69", x, 1, 0, 7, 14, 1);
     }
 
     /** OFFER 2 becomes 1 by AGAIN; then what is lost changes nothing. */
@@ -663,18 +617,18 @@ public final class PromisesTest {
         Checks.read(x, "80000000/80000000;2");
         x.call(0);
         x.go(70);
-        dueEnd("in DATA", x, 0, 0, 7, 2, 1, 3, 2, 4, 2, 13, 0);
+        c.dueEnd("in DATA", x, 0, 0, 7, 2, 1, 3, 2, 4, 2, 13, 0);
         Checks.read(x, "80000000/80000000;2h0,1");
         c.due("two are lost", x.go(2), 0);
         c.due("three are lost", x.go(1), 1);
-        dueEnd("AGAIN", x, 0, 0, 5, 2, 2, 3, 1, 4, 2, 13, 1, 15, 7);
+        c.dueEnd("AGAIN", x, 0, 0, 5, 2, 2, 3, 1, 4, 2, 13, 1, 15, 7);
         Checks.read(x, "80000000/80000000;2");
         x.go(20);
-        dueEnd("in DATA", x, 0, 0, 7, 2, 2, 3, 1, 4, 1, 14, 2);
-        dueEnd("in DATA", x, 1, 0, 7, 2, 2, 3, 2, 4, 1, 14, 2);
+        c.dueEnd("in DATA", x, 0, 0, 7, 2, 2, 3, 1, 4, 1, 14, 2);
+        c.dueEnd("in DATA", x, 1, 0, 7, 2, 2, 3, 2, 4, 1, 14, 2);
         Checks.read(x, "80000000/80000000;2h0,1");
         c.due("three are lost", x.go(3), 0);
-        dueEnd("no AGAIN", x, 0, 0, 7, 2, 2, 3, 1, 13, 1, 15, 7);
+        c.dueEnd("no AGAIN", x, 0, 0, 7, 2, 2, 3, 1, 13, 1, 15, 7);
     }
 
     /** Both hang ahead of TICK 57 and meet again 57 TICKS later than the first time. */
@@ -685,8 +639,8 @@ public final class PromisesTest {
         x.echo(0, 2, 19);
         x.call(0);
         x.go(57);
-        dueEnd("TICK 56", x, 0, 0, 7, 5, 0, 7, 4, 8, 0, 9, 0, 10, 1, 14, 1);
-        dueEnd("TICK 56", x, 1, 0, 7, 7, 2, 8, 0, 9, 0, 14, 1);
+        c.dueEnd("TICK 56", x, 0, 0, 7, 5, 0, 7, 4, 8, 0, 9, 0, 10, 1, 14, 1);
+        c.dueEnd("TICK 56", x, 1, 0, 7, 7, 2, 8, 0, 9, 0, 14, 1);
         int learnt = x.learnt(0, 2);
         c.due("something is learnt", learnt > 200 ? 1 : 0, 1);
         c.due("hang 0", x.hang(0), 7);
@@ -694,7 +648,7 @@ public final class PromisesTest {
         x.echo(0, 2, 0);
         x.call(0);
         x.go(1);
-        dueHeard("FRAMES are still on their way", x, 1, 7, 1, 0, 2, 0);
+        c.dueHeard("FRAMES are still on their way", x, 1, 7, 1, 0, 2, 0);
         x.go(17);
         c.due("LEARNT stays until TRAIN", x.learnt(0, 2), learnt);
         x.go(1);
@@ -702,19 +656,19 @@ public final class PromisesTest {
             c.due("LEARNT is 0 in TRAIN", x.learnt(0, tap), 0);
         }
         x.go(32);
-        dueEnd("in BARGAIN", x, 0, 0, 5, 2, 1, 3, 16, 11, 0, 7, 4, 10, 1);
+        c.dueEnd("in BARGAIN", x, 0, 0, 5, 2, 1, 3, 16, 11, 0, 7, 4, 10, 1);
         x.go(5);
-        dueEnd("TICK 112: NEXT was TOLD", x, 0, 0, 7, 5, 0, 7, 2, 8, 0, 10, 0, 14, 2);
+        c.dueEnd("TICK 112: NEXT was TOLD", x, 0, 0, 7, 5, 0, 7, 2, 8, 0, 10, 0, 14, 2);
         c.due("two of END 0 were sent twice", x.count(8), 2);
         x.go(1);
         c.due("four of END 0, two of END 1", x.count(8), 6);
         x.go(30);
         c.due("no more", x.count(8), 6);
-        dueText("GOT", Checks.gotText(x, 1), "ABCDEF");
-        dueText("GOT", Checks.gotText(x, 0), "UVWXYZ");
+        c.dueText("GOT", Checks.gotText(x, 1), "ABCDEF");
+        c.dueText("GOT", Checks.gotText(x, 0), "UVWXYZ");
         x.hang(0);
         x.go(3);
-        dueHeard("REST sends SILENCE", x, 1, 0, 0, 0, 0, 0);
+        c.dueHeard("REST sends SILENCE", x, 1, 0, 0, 0, 0, 0);
     }
 
     /** Nothing of an ECHO is known that comes behind TRAIN: 4 TAPS of 100 take 400 / 20 from each BAND. */
@@ -726,23 +680,23 @@ public final class PromisesTest {
         x.echo(0, 0, 50);
         x.echo(0, 3, -29);
         x.go(1);
-        dueEnd("REMAINS 79 takes 3", x, 0, 11, 79, 3, 24);
+        c.dueEnd("REMAINS 79 takes 3", x, 0, 11, 79, 3, 24);
         x = new TwoModems();
         Checks.read(x, "fffff000/fedcba98;2");
         x.call(0);
         x.go(50);
         x.echo(0, 1, -80);
         x.go(1);
-        dueEnd("REMAINS 80 takes 4: 11, 10, 9, 8, 7, 6, 5, 4", x, 0, 11, 80, 3, 12);
+        c.dueEnd("REMAINS 80 takes 4: 11, 10, 9, 8, 7, 6, 5, 4", x, 0, 11, 80, 3, 12);
         x.go(1);
         x.echo(1, 0, 100);
         x.echo(1, 1, 100);
         x.echo(1, 2, 100);
         x.echo(1, 3, -100);
         x.go(1);
-        dueEnd("REMAINS 400 takes 20: none is left", x, 1, 11, 400, 3, 0);
+        c.dueEnd("REMAINS 400 takes 20: none is left", x, 1, 11, 400, 3, 0);
         x.echo(0, 1, 0);
-        dueEnd("REMAINS is as it was", x, 0, 11, 80);
+        c.dueEnd("REMAINS is as it was", x, 0, 11, 80);
     }
 
     private void promise11QualitySteps() {
@@ -754,7 +708,7 @@ public final class PromisesTest {
             Checks.read(x, "cccccccc/" + qualities[k] + ";1");
             x.call(0);
             x.go(47);
-            dueEnd("QUALITY " + qualities[k], x, 0, 0, 5, 3, offers[k]);
+            c.dueEnd("QUALITY " + qualities[k], x, 0, 0, 5, 3, offers[k]);
         }
     }
 
@@ -868,19 +822,15 @@ public final class PromisesTest {
         c.due("GOT stays", x.got(1, 3), 'Z');
         StringBuilder all = new StringBuilder();
         x = new TwoModems();
-        for (int k = 0; k < 20; k++) {
-            Checks.speak(x, 1, "0123456789");
-            all.append("0123456789");
+        String text = "0123456789abcdefghijABCDEFGHI";
+        for (int k = 0; k < 7; k++) {
+            String next = text.substring(0, Math.min(29, 200 - all.length()));
+            Checks.speak(x, 1, next);
+            all.append(next);
         }
         x.call(0);
         Checks.pass(x, 400);
-        dueText("all 200 are GOT", Checks.gotText(x, 0), all.toString());
-    }
-
-    private void dueHeard(String when, TwoModems x, int end, int... want) {
-        for (int what = 0; what < 5; what++) {
-            c.due(when + ": heard(" + end + ", " + what + ")", x.heard(end, what), want[what]);
-        }
+        c.dueText("all 200 are GOT", Checks.gotText(x, 0), all.toString());
     }
 
     private void promise15Heard() {
@@ -895,41 +845,41 @@ public final class PromisesTest {
         Checks.speak(x, 1, "DEFG");
         x.call(0);
         x.go(2);
-        dueHeard("TICK 1", x, 1, 0, 0, 0, 0, 0);
+        c.dueHeard("TICK 1", x, 1, 0, 0, 0, 0, 0);
         x.go(1);
-        dueHeard("TICK 2", x, 1, 1, 0, 0, 0, 0);
+        c.dueHeard("TICK 2", x, 1, 1, 0, 0, 0, 0);
         x.go(2);
-        dueHeard("TICK 4", x, 0, 2, 0, 0, 0, 0);
+        c.dueHeard("TICK 4", x, 0, 2, 0, 0, 0, 0);
         x.go(9);
-        dueHeard("TICK 13: PROBE 7", x, 1, 3, 7, 0, 0, 0);
+        c.dueHeard("TICK 13: PROBE 7", x, 1, 3, 7, 0, 0, 0);
         x.go(1);
-        dueHeard("TICK 14: SILENCE of PROBE", x, 1, 0, 0, 0, 0, 0);
+        c.dueHeard("TICK 14: SILENCE of PROBE", x, 1, 0, 0, 0, 0, 0);
         x.go(6);
-        dueHeard("TICK 20: TRAIN", x, 1, 4, 0, 0, 0, 0);
+        c.dueHeard("TICK 20: TRAIN", x, 1, 4, 0, 0, 0, 0);
         x.go(33);
-        dueHeard("TICK 53: OFFER", x, 1, 5, 1, 16, 0, 0);
+        c.dueHeard("TICK 53: OFFER", x, 1, 5, 1, 16, 0, 0);
         x.go(2);
-        dueHeard("TICK 55: AGREE", x, 0, 6, 1, 16, 0, 0);
+        c.dueHeard("TICK 55: AGREE", x, 0, 6, 1, 16, 0, 0);
         x.go(2);
-        dueHeard("TICK 57: FRAME", x, 1, 7, 1, 0, 2, 0);
+        c.dueHeard("TICK 57: FRAME", x, 1, 7, 1, 0, 2, 0);
         x.go(1);
-        dueHeard("TICK 58: FRAME", x, 1, 7, 1, 2, 1, 0);
-        dueHeard("TICK 58: FRAME", x, 0, 7, 1, 0, 2, 0);
+        c.dueHeard("TICK 58: FRAME", x, 1, 7, 1, 2, 1, 0);
+        c.dueHeard("TICK 58: FRAME", x, 0, 7, 1, 0, 2, 0);
         x.go(1);
-        dueHeard("TICK 59: FRAME", x, 0, 7, 1, 2, 2, 2);
+        c.dueHeard("TICK 59: FRAME", x, 0, 7, 1, 2, 2, 2);
         x.go(1);
-        dueHeard("TICK 60: FRAME", x, 0, 7, 1, 4, 0, 3);
-        dueHeard("TICK 60: FRAME", x, 1, 7, 1, 3, 0, 2);
+        c.dueHeard("TICK 60: FRAME", x, 0, 7, 1, 4, 0, 3);
+        c.dueHeard("TICK 60: FRAME", x, 1, 7, 1, 3, 0, 2);
         Checks.read(x, PLAIN + "h1,0");
         x.go(1);
-        dueHeard("HURT", x, 1, 0, 0, 0, 0, 0);
+        c.dueHeard("HURT", x, 1, 0, 0, 0, 0, 0);
         x = new TwoModems();
         x.call(0);
         x.call(1);
         x.go(61);
-        dueEnd("given up", x, 0, 0, 0, 12, 1);
-        dueHeard("in the TICK of giving up", x, 0, 1, 0, 0, 0, 0);
-        dueHeard("in the TICK of giving up", x, 1, 1, 0, 0, 0, 0);
+        c.dueEnd("given up", x, 0, 0, 0, 12, 1);
+        c.dueHeard("in the TICK of giving up", x, 0, 1, 0, 0, 0, 0);
+        c.dueHeard("in the TICK of giving up", x, 1, 1, 0, 0, 0, 0);
     }
 
     private void promise16About() {
@@ -1050,16 +1000,17 @@ public final class PromisesTest {
         c.due("digest of a new one", x.digest(), digestByHand(x, new int[8], ""));
         c.due("digest changes nothing", x.digest(), digestByHand(x, new int[8], ""));
         int[] taps = {1, -2, 3, -4, 50, -60, 70, -80};
-        for (int k = 0; k < 8; k++) {
-            x.echo(k / 4, k % 4, taps[k]);
-        }
-        Checks.read(x, "fedcba98/89abcdef;3h9,7");
-        Checks.speak(x, 0, "Two modems");
-        Checks.speak(x, 1, "shake hands");
-        Checks.write(x, "page");
-        x.call(0);
-        for (int k = 0; k < 10; k++) {
-            x.go(20);
+        for (int k = 1; k <= 10; k++) {
+            x = new TwoModems();
+            for (int tap = 0; tap < 8; tap++) {
+                x.echo(tap / 4, tap % 4, taps[tap]);
+            }
+            Checks.read(x, "fedcba98/89abcdef;3h9,7");
+            Checks.speak(x, 0, "Two modems");
+            Checks.speak(x, 1, "shake hands");
+            Checks.write(x, "page");
+            x.call(0);
+            Checks.pass(x, 20 * k);
             c.due("digest on the way " + k, x.digest(), digestByHand(x, taps, "page"));
         }
     }
