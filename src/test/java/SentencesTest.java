@@ -553,7 +553,6 @@ public final class SentencesTest {
     /** "THE PAGE is read as THE LINE (what is on its way stays so)" */
     void promise5LineChangesTheLineAlone() {
         for (TwoModems x : several()) {
-            c.due("read once", Checks.read(x, "c4444444/c4444444;2h1,1"), 2);
             Checks.write(x, "01234567/89abcde9;7h6,5");
             Map<String, Integer> before = allTold(x);
             x.line();
