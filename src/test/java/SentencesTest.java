@@ -409,7 +409,7 @@ public final class SentencesTest {
      * Both ENDS gave up twice, had AGAIN once, are in DATA with g 2, and heard nothing in 16 TICKS: of all that is
      * told of an END nothing is 0.
      */
-    private TwoModems rich() {
+    private static TwoModems rich() {
         String line = "c4444444/c4444444;2";
         TwoModems x = Checks.on(line);
         for (int tap = 0; tap < 4; tap++) {
@@ -430,16 +430,21 @@ public final class SentencesTest {
         pass(x, line + "h1,1", 3);
         pass(x, line, 41);
         pass(x, line + "h1,1", 16);
+        return x;
+    }
+
+    private void dueRich() {
         for (int end = 0; end < 2; end++) {
+            TwoModems x = rich();
             c.dueEnd("rich", x, end, 0, DATA, 2, 2, 3, 1, 4, 1, 12, 2, 13, 1, 14, 2, 15, 255);
             for (Map.Entry<String, Integer> told : endTold(x, end).entrySet()) {
                 c.due(told.getKey() + " is not 0", told.getValue() != 0 ? 1 : 0, 1);
             }
             c.due("NEXT is not TOLD", x.end(end, 7) > x.end(end, 8) ? 1 : 0, 1);
         }
-        return x;
     }
 
+    /** By the PHASE that an END comes from and that into which it comes: which of what is told of it may change. */
     private static final String[][] MAY_CHANGE = {
         {"end 1", "", "end [01]", "", "", "", "", ""},
         {"end (0|1|12)", "end 1", "", "(end [01]|band .)", "", "", "", ""},
@@ -450,73 +455,79 @@ public final class SentencesTest {
         {"end (0|1|12)", "", "", "", "", "end [012]", "end 1", "end (0|1|5|7|10|14|15)"},
         {"end (0|1|12)", "", "", "", "", "", "", ".*"}};
 
-    /** TICK by TICK: between two PHASES nothing changes but what is told for them. */
-    private int watch(TwoModems x, int ticks) {
-        int changes = 0;
-        for (int k = 0; k < ticks; k++) {
-            Map<String, Integer> before0 = endTold(x, 0), before1 = endTold(x, 1);
-            changes += x.go(1);
-            dueMayChange(x, 0, before0);
-            dueMayChange(x, 1, before1);
+    /** A tour is made of c (call) and h (hang) with an END, L with a LINE, g with TICKS. It is left at a TICK. */
+    private static void play(TwoModems x, String tour, int leftAt) {
+        int left = leftAt;
+        for (String step : tour.split(" ")) {
+            String told = step.substring(1);
+            switch (step.charAt(0)) {
+                case 'c': x.call(Integer.parseInt(told)); break;
+                case 'h': x.hang(Integer.parseInt(told)); break;
+                case 'L': Checks.read(x, told); break;
+                default:
+                    int ticks = Integer.parseInt(told);
+                    Checks.pass(x, Math.min(left, ticks));
+                    left -= ticks;
+                    if (left < 0) {
+                        return;
+                    }
+                    break;
+            }
         }
-        return changes;
     }
 
-    private void dueMayChange(TwoModems x, int end, Map<String, Integer> before) {
+    /** An object is asked in one TICK alone: all of a tour would be far above its 512 calls. */
+    private TwoModems dueTour(String tour, int ticks, int changes) {
+        for (int tick = 0; tick < ticks; tick++) {
+            for (int end = 0; end < 2; end++) {
+                TwoModems x = rich();
+                play(x, tour, tick);
+                Map<String, Integer> before = endTold(x, end);
+                x.go(1);
+                dueMayChange(tour + " in TICK " + tick, x, end, before);
+            }
+        }
+        TwoModems x = rich();
+        int changesBefore = x.count(6), ticksBefore = x.count(1);
+        play(x, tour, ticks);
+        c.due(tour + " has TICKS", x.count(1) - ticksBefore, ticks);
+        c.due(tour + " has changes of PHASE", x.count(6) - changesBefore, changes);
+        return x;
+    }
+
+    private void dueMayChange(String when, TwoModems x, int end, Map<String, Integer> before) {
         int from = before.get(end + " end 0"), to = x.end(end, 0);
         for (String name : changed(before, endTold(x, end))) {
-            c.due("from PHASE " + from + " to " + to + ": " + name + " changed in TICK " + (x.count(1) - 1),
+            c.due(when + " from PHASE " + from + " to " + to + ": " + name + " changed",
                 name.substring(2).matches(MAY_CHANGE[from][to]) ? 1 : 0, 1);
         }
     }
 
-    /** By go(): giving up in DATA, then all PHASES up to DATA, by END 0's CALL and by END 1's. */
+    /** Giving up in DATA, then all PHASES up to DATA, by END 0's CALL and by END 1's. */
     void terms2AllStaysWhateverPhaseComes() {
+        dueRich();
         for (int caller = 0; caller < 2; caller++) {
-            TwoModems x = rich();
-            c.due("both give up", watch(x, 1), 2);
-            c.dueEnd("given up", x, 0, 0, REST, 12, 3);
-            c.dueEnd("given up", x, 1, 0, REST, 12, 3);
-            Checks.read(x, "88888888/88888888;2");
-            c.due("REST", watch(x, 3), 0);
-            x.call(caller);
-            c.due("all the way to DATA", watch(x, 57), 11);
+            TwoModems x = dueTour("g1 L88888888/88888888;2 g3 c" + caller + " g57", 61, 2 + 11);
             c.dueEnd("DATA", x, 0, 0, DATA, 12, 3, 13, 1, 14, 3);
             c.dueEnd("DATA", x, 1, 0, DATA, 12, 3, 13, 1, 14, 3);
         }
     }
 
-    /** The same: giving up in ANSWER and CALL; REST by RATE 0; giving up in AGREE and BARGAIN. */
+    /** The same: giving up in ANSWER and CALL, then REST by RATE 0; giving up in AGREE and BARGAIN. */
     void terms2AllStaysWhereItEndsInRest() {
-        TwoModems x = rich();
-        watch(x, 1);
-        Checks.read(x, PLAIN);
-        x.call(0);
-        watch(x, 3);
-        x.hang(0);
-        x.call(0);
-        Checks.read(x, PLAIN + "h1,1");
-        c.due("both give up", watch(x, 61), 2);
-        c.due("REST", watch(x, 3), 0);
-        Checks.read(x, "00000000/00000000;2");
-        x.call(0);
-        c.due("both come into REST by RATE 0", watch(x, 100), 9);
+        TwoModems x = dueTour("g1 L88888888/88888888;2 c0 g3 h0 c0 L88888888/88888888;2h1,1 g61 g3"
+            + " L00000000/00000000;2 c0 g60", 128, 2 + 1 + 2 + 9);
         c.dueEnd("RATE 0", x, 0, 0, REST, 4, 0, 12, 4);
-        x = rich();
-        watch(x, 1);
-        Checks.read(x, PLAIN);
-        x.call(0);
-        c.due("END 1 in AGREE", watch(x, 54), 8);
-        Checks.read(x, PLAIN + "h1,1");
-        c.due("both give up", watch(x, 60), 2);
-        c.dueEnd("in BARGAIN", x, 0, 0, REST, 12, 4);
-        c.dueEnd("in AGREE", x, 1, 0, REST, 12, 4);
+        c.dueEnd("RATE 0", x, 1, 0, REST, 4, 0, 12, 4);
+        x = dueTour("g1 L88888888/88888888;2 c0 g54 L88888888/88888888;2h1,1 g60", 115, 2 + 8 + 2);
+        c.dueEnd("given up in BARGAIN", x, 0, 0, REST, 2, 1, 4, 1, 12, 4);
+        c.dueEnd("given up in AGREE", x, 1, 0, REST, 2, 1, 4, 16, 12, 4);
     }
 
     // ---- a call changes what is told of it, and no more
 
-    private void dueChanged(String call, Map<String, Integer> before, TwoModems x, String want) {
-        c.dueText(call + " changed", changed(before, allTold(x)).toString(), want);
+    private interface Calls {
+        void on(TwoModems x);
     }
 
     /** Both ENDS heard FRAMES with letters in the latest TICK. */
@@ -530,80 +541,70 @@ public final class SentencesTest {
         return x;
     }
 
-    private TwoModems[] several() {
+    private void dueChangedBy(String call, Calls ahead, Calls made, String want) {
+        for (TwoModems x : new TwoModems[] {rich(), talking()}) {
+            ahead.on(x);
+            Map<String, Integer> before = allTold(x);
+            made.on(x);
+            c.dueText(call + " changed", changed(before, allTold(x)).toString(), want);
+        }
+    }
+
+    /** What is talking has heard something in the latest TICK, which stays so. */
+    void promise15TalkingEndsHeardFrames() {
         TwoModems x = talking();
         // RATE is 10: n is 1, 1, 1, 2, 1 from TICK 55 on (END 0) and from TICK 56 on (END 1)
         c.dueHeard("FRAME of TICK 59", x, 0, FRAME, 1, 3, 2, 3);
         c.dueHeard("FRAME of TICK 59", x, 1, FRAME, 1, 5, 1, 2);
-        return new TwoModems[] {rich(), x};
     }
 
     /** Of what is told, "how many THE PAGE has"; THE PAGE is empty again by blank(). */
     void promise2LetterAndBlankChangeThePageAlone() {
-        for (TwoModems x : several()) {
-            Map<String, Integer> before = allTold(x);
-            x.letter('!');
-            dueChanged("letter", before, x, "[count 0]");
-            before = allTold(x);
-            x.blank();
-            dueChanged("blank", before, x, "[count 0]");
-        }
+        dueChangedBy("letter", x -> { }, x -> x.letter('!'), "[count 0]");
+        dueChangedBy("blank", x -> x.letter('!'), x -> x.blank(), "[count 0]");
     }
 
     /** "THE PAGE is read as THE LINE (what is on its way stays so)" */
     void promise5LineChangesTheLineAlone() {
-        for (TwoModems x : several()) {
-            Checks.write(x, "01234567/89abcde9;7h6,5");
-            Map<String, Integer> before = allTold(x);
-            x.line();
-            dueChanged("line", before, x, "[about 0, about 1, about 10, about 11, about 12, about 13, about 15, "
-                + "about 16, about 17, about 2, about 20, about 21, about 22, about 23, about 24, about 25, about 26, "
-                + "about 27, count 0, count 7]");
-            c.due("BAND 4 of WAY 0 was 4", x.about(14), 4);
-        }
+        dueChangedBy("line", x -> Checks.write(x, "01235670/89abcdef;7h6,5"), x -> x.line(),
+            "[about 0, about 1, about 10, about 11, about 12, about 13, about 14, about 15, about 16, about 17, "
+            + "about 2, about 20, about 21, about 22, about 23, about 24, about 25, about 26, about 27, count 0, count 7]");
     }
 
     /** "Letters of THE PAGE (whichever) are behind those that an END has to send .. THE PAGE is empty then." */
     void promise6SayChangesWhatIsToBeSentAlone() {
-        for (int end = 0; end < 2; end++) {
-            for (TwoModems x : several()) {
-                Checks.write(x, "more");
-                Map<String, Integer> before = allTold(x);
-                c.due("say", x.say(end), 30);
-                dueChanged("say", before, x, "[" + end + " end 6, count 0]");
-            }
-        }
+        dueChangedBy("say(0)", x -> Checks.write(x, "more"), x -> x.say(0), "[0 end 6, count 0]");
+        dueChangedBy("say(1)", x -> Checks.write(x, "more"), x -> x.say(1), "[1 end 6, count 0]");
     }
 
     /** "A TAP of the ECHO of an END becomes v": nothing but the digest tells of it. */
     void promise7EchoChangesATapAlone() {
-        for (TwoModems x : several()) {
-            Map<String, Integer> before = allTold(x);
-            long digest = x.digest();
-            c.due("echo", x.echo(1, 2, -99), 5);
-            dueChanged("echo", before, x, "[]");
-            c.due("the digest tells of it", x.digest() != digest ? 1 : 0, 1);
-            c.due("echo", x.echo(1, 2, 5), -99);
-            c.due("and that it is as it was", x.digest(), digest);
-        }
+        dueChangedBy("echo", x -> { }, x -> x.echo(1, 2, -99), "[]");
+        TwoModems x = rich();
+        long digest = x.digest();
+        c.due("echo", x.echo(1, 2, -99), 5);
+        c.due("the digest tells of it", x.digest() != digest ? 1 : 0, 1);
+        c.due("echo", x.echo(1, 2, 5), -99);
+        c.due("and that it is as it was", x.digest(), digest);
     }
 
     /** "An END goes to CALL"; "An END goes to REST": PHASE and LASTED of that END change. */
     void promise8And9CallAndHangChangeThePhaseAlone() {
         for (int end = 0; end < 2; end++) {
-            TwoModems x = rich();
-            Map<String, Integer> before = allTold(x);
-            x.hang(end);
-            dueChanged("hang", before, x, "[" + end + " end 0, " + end + " end 1]");
-            Checks.read(x, PLAIN);
-            x.go(2);
-            c.dueHeard("a FRAME in REST", x, end, FRAME);
-            before = allTold(x);
-            x.call(end);
-            dueChanged("call", before, x, "[" + end + " end 0, " + end + " end 1]");
-            before = allTold(x);
-            x.hang(end);
-            dueChanged("hang without a TICK between", before, x, "[" + end + " end 0]");
+            int e = end;
+            String phaseAndLasted = "[" + end + " end 0, " + end + " end 1]";
+            Calls hungAndHeard = x -> {
+                x.hang(e);
+                pass(x, PLAIN, 2);
+                c.dueHeard("in REST", x, e, FRAME);
+            };
+            Calls hungAndCalled = x -> {
+                x.hang(e);
+                x.call(e);
+            };
+            dueChangedBy("hang", x -> { }, x -> x.hang(e), phaseAndLasted);
+            dueChangedBy("call", hungAndHeard, x -> x.call(e), phaseAndLasted);
+            dueChangedBy("hang without a TICK between", hungAndCalled, x -> x.hang(e), "[" + end + " end 0]");
         }
     }
 }
